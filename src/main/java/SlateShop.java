@@ -524,7 +524,8 @@ public final class SlateShop {
             place = 0;
             step = 0;
             part = 0;
-            while (place < length) {
+            // Each token has a byte at least.
+            for (int tokens = 0; tokens < MOST && place < length; tokens++) {
                 int wrong = readToken(into);
                 if (wrong != 0) {
                     return wrong;
@@ -637,7 +638,6 @@ public final class SlateShop {
         static final int CROSSED = 30, PAID = 36, TOOK = 42, KIND = 48;
         static final int CASH = 54, OWED = 55, STRIKE = 56, SHUT = 57;
         static final int COUNT = 58, DEARER = 59, EVERY = 60, WEEK = 61, LENGTH = 62;
-        private static final int[] NEAREST = {0, 0, STEADY, STEADY, 0, TWICE};
 
         final int[] sums;
 
@@ -661,16 +661,25 @@ public final class SlateShop {
         }
 
         boolean has(int one) {
-            return one >= 0 && one < sums[COUNT];
+            return one >= 0 && one < MOST && one < sums[COUNT];
         }
 
         boolean comes(int one) {
-            return sums[CROSSED + one] == 0 && sums[GONE + one] == 0;
+            return has(one) && sums[CROSSED + one] == 0 && sums[GONE + one] == 0;
         }
 
         static boolean isKind(int kind, int wanted) {
-            int nearest = NEAREST[kind];
-            return kind == wanted || nearest == wanted || NEAREST[nearest] == wanted;
+            int nearest = nearestKind(kind);
+            return kind == wanted || nearest == wanted || nearestKind(nearest) == wanted;
+        }
+
+        private static int nearestKind(int kind) {
+            switch (kind) {
+                case ROLLING:
+                case HAY: return STEADY;
+                case ROGUE: return TWICE;
+                default: return 0;
+            }
         }
 
         /** What all debtors pay in it. */
@@ -696,7 +705,7 @@ public final class SlateShop {
         }
 
         private void takeAll() {
-            for (int one = 0; one < sums[COUNT]; one++) {
+            for (int one = 0; one < MOST; one++) {
                 if (comes(one)) {
                     take(one);
                 }
@@ -713,7 +722,7 @@ public final class SlateShop {
 
         private int payAll() {
             int paid = 0;
-            for (int one = 0; one < sums[COUNT]; one++) {
+            for (int one = 0; one < MOST; one++) {
                 if (!comes(one)) {
                     continue;
                 }
@@ -758,7 +767,7 @@ public final class SlateShop {
 
         int allDebts() {
             int all = 0;
-            for (int one = 0; one < sums[COUNT]; one++) {
+            for (int one = 0; one < MOST; one++) {
                 if (sums[CROSSED + one] == 0) {
                     all += sums[DEBT + one];
                 }
@@ -769,8 +778,8 @@ public final class SlateShop {
         /** The debt of one who is crossed out stays as it was then: he takes and pays nothing. */
         int lost() {
             int all = 0;
-            for (int one = 0; one < sums[COUNT]; one++) {
-                if (!comes(one)) {
+            for (int one = 0; one < MOST; one++) {
+                if (has(one) && !comes(one)) {
                     all += sums[DEBT + one];
                 }
             }
@@ -779,7 +788,7 @@ public final class SlateShop {
 
         int bits(int column) {
             int set = 0;
-            for (int one = 0; one < sums[COUNT]; one++) {
+            for (int one = 0; one < MOST; one++) {
                 if (sums[column + one] != 0) {
                     set |= 1 << one;
                 }
@@ -789,7 +798,7 @@ public final class SlateShop {
 
         int howManyCome() {
             int coming = 0;
-            for (int one = 0; one < sums[COUNT]; one++) {
+            for (int one = 0; one < MOST; one++) {
                 if (comes(one)) {
                     coming++;
                 }
@@ -799,7 +808,7 @@ public final class SlateShop {
 
         /** The debtor with k others ahead of him at the door. */
         int owingMost(int k) {
-            for (int one = 0; one < sums[COUNT]; one++) {
+            for (int one = 0; one < MOST; one++) {
                 if (comes(one) && aheadOf(one) == k) {
                     return one;
                 }
@@ -809,7 +818,7 @@ public final class SlateShop {
 
         private int aheadOf(int one) {
             int before = 0;
-            for (int other = 0; other < sums[COUNT]; other++) {
+            for (int other = 0; other < MOST; other++) {
                 int more = sums[DEBT + other] - sums[DEBT + one];
                 if (comes(other) && (more > 0 || more == 0 && other < one)) {
                     before++;
@@ -944,7 +953,7 @@ public final class SlateShop {
 
         private void giveOnlyTo(int set, int n) {
             then.becomes(now);
-            for (int one = 0; one < then.sums[Book.COUNT]; one++) {
+            for (int one = 0; one < Book.MOST; one++) {
                 if ((set >> one & 1) == 0) {
                     then.sums[Book.STOP + one] = 0;
                 }
