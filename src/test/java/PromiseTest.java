@@ -138,6 +138,7 @@ public final class PromiseTest {
         due("zero anew", x.copy(7, 39, 6, 0, 1), 1);
         SlateShop y = of("f50,0,1;s0,0,0;");
         y.row(0, 2, 3);
+        y.set(0, 0, 7);
         y.set(0, 1, 7);
         due("items told", y.who(0, 0, 1, 1), 0);
         y.row(0, 2, 3);
@@ -267,7 +268,11 @@ public final class PromiseTest {
         due("rows stay", x.count(0), 1);
         due("images stay", x.restore(1), 1);
         due("image", x.count(4), 5);
-        due("a null at first", new SlateShop().shop(), -1000100);
+        due("of no bytes", new SlateShop().shop(), -1000100);
+        x.weeks(1);
+        x.ahead(1, 0);
+        tell(x, STEADY);
+        due("no debts of the one before", x.debtor(0, 0), 0);
         faulty("", 0, 1);
         faulty("f", 1, 1);
         faulty("g1,1,1;s1,1,1;", 0, 1);
@@ -440,6 +445,10 @@ public final class PromiseTest {
         x.weeks(1);
         due("hay in the eighth", x.debtor(1, 6), 14);
         due("the gone take no more", x.debtor(2, 7), 30);
+        x = of("f99,0,8;s0,0,0;r60,13,99;g9,1,1;");
+        x.weeks(1);
+        due("the second: half, cut", x.debtor(1, 6), 6);
+        due("1 is above 0: he is gone", x.debtor(2, 4), 1);
         x = of("f99,0,8;g9,20,19;");
         x.strike(1);
         x.weeks(1);
@@ -602,6 +611,7 @@ public final class PromiseTest {
         due("no one", x.debt(1, 1), BAD);
         due("no one", x.debt(-1, 1), BAD);
         due("nothing changes", x.debtor(0, 0), 0);
+        due("of another", of("f99,0,8;s0,3,99;s0,5,99;h0,7,99;").debt(2, 2), 14);
     }
 
     private static void shuts() {
@@ -644,7 +654,13 @@ public final class PromiseTest {
         due("what 2", x.bestStop(0, 1, 2), BAD);
         due("what -1", x.bestStop(0, 1, -1), BAD);
         due("all the same: the least", of("f10,0,8;s60,0,20;").bestStop(0, 5, 0), 0);
-        due("99", of("f0,20,8;r60,40,0;").bestStop(0, 60, 0) <= 99 ? 1 : 0, 1);
+        due("of another", of("f0,20,8;s0,9,9;s60,40,0;").bestStop(1, 1, 0), 30);
+        due("of another, how much", of("f0,20,8;s0,9,9;s60,40,0;").bestStop(1, 1, 1), 60 - 30 - 9);
+        // He pays all: twice the 51 that 99 leaves him in the strike, and twice 16 in each of the last 11 weeks.
+        x = of("f70,20,8;s59,16,8;");
+        x.strike(9);
+        due("99", x.bestStop(0, 21, 0), 99);
+        due("99, how much", x.bestStop(0, 21, 1), 70 + 51 + 11 * 16);
         due("cash below 0", of("f0,0,1;t0,40,99;s0,3,3;").bestStop(0, 9, 1), -3);
     }
 
@@ -732,6 +748,13 @@ public final class PromiseTest {
         due("two weeks", x.rogue(0, 2, 0), 16);
         due("none", x.rogue(1, 9, 1), 0);
         due("the least", x.rogue(1, 9, 0), 0);
+        SlateShop y = of("f99,0,8;s9,40,20;h2,33,0;r60,40,99;");
+        due("of another", y.rogue(1, 1, 0), 33);
+        due("of another, how much", y.rogue(1, 2, 1), 66 - 1);
+        due("of another, two weeks", y.rogue(1, 2, 0), 65);
+        y.strike(3);
+        due("99", y.rogue(2, 3, 0), 99);
+        due("99, how much", y.rogue(2, 3, 1), 99);
         x.weeks(2);
         due("only what is to come", x.rogue(1, 9, 1), 0);
         due("what he owes is 2 now", x.rogue(0, 1, 1), 10);
@@ -768,6 +791,12 @@ public final class PromiseTest {
         due("4: twice, or a rogue who is stopped at 21", x.who(4, 3, 1, 1), 16 + 32);
         due("stopped at 20 a rogue is gone", x.who(3, 3, 1, 1), 16);
         due("0: hay, and a rogue stopped", x.who(0, 3, 0, 1), 8 + 32);
+        SlateShop y = of("f99,0,8;s9,20,20;s9,20,20;");
+        y.row(0, 1, 2);
+        y.set(0, 0, 9);
+        y.set(0, 1, 9);
+        y.weeks(1);
+        due("in each week, not in all", y.who(1, 0, 0, 2), 2 + 4);
         due("0: hay", x.who(4, 3, 0, 1), 8);
         due("nothing changes", x.count(4), 0);
         due("12 of 14 from 2", x.who(0, 3, 2, 12), 0);
@@ -792,6 +821,9 @@ public final class PromiseTest {
     private static void atDoor() {
         promise = 26;
         due("no shop", new SlateShop().atDoor(6), STATE);
+        SlateShop y = of("f99,0,8;s0,8,99;s0,9,99;");
+        y.weeks(1);
+        due("1 more", y.atDoor(0), 1);
         SlateShop x = of("f99,0,8;s0,5,99;s0,9,99;g0,9,9;s0,9,99;s0,1,99;s0,30,99;");
         x.cross(5, 1);
         x.weeks(1);
@@ -853,6 +885,7 @@ public final class PromiseTest {
         due("one of two", x.drawn(2, 10, 1), 1);
         due("16807: none", x.drawn(1, 1, 0), 1);
         due("16807: paid", x.drawn(1, 1, 1), 0);
+        due("no strike, but nobody paid", of("f9,0,8;s0,9,99;").drawn(1, 1, 1), 1);
         due("none", x.drawn(0, 999999, 0), 0);
         due("none", x.drawn(0, 999999, 1), 0);
         int strikes = 0;
