@@ -122,6 +122,9 @@ abstract class Held {
         if (ofSentence == 0) {
             fails("nothing holds it");
         }
+        if (!document.isThere()) {
+            System.out.println("the document is not there: that its sentences stand so was not looked at");
+        }
         document.rest().forEach((section, text) -> {
             failed++;
             System.out.println("no test names these words of " + section + ": " + text);
