@@ -52,6 +52,9 @@ final class ForetoldSentences extends Held {
         due("CASH, the wholesaler come", y.ahead(7, 0), 99 - 9 - 7);
         SlateShop z = of(CALM, 999);
         due("beyond WEEK 999", z.ahead(60, 0), 99);
+        SlateShop first = of("f99,0,8;s0,1,40;s0,3,30;", 1);
+        first.cross(0, 1);
+        due("the first CROSSED OUT", first.ahead(1, 2), 6);
         sentence("BAD; STATE: no SHOP (ahead of BAD).");
         range("what", 0, 2, what -> x.ahead(0, what));
         due("no shop", new SlateShop().ahead(0, 0), STATE);
