@@ -7,8 +7,9 @@ import java.util.List;
 import java.util.regex.Matcher;
 import java.util.regex.Pattern;
 
-/** Those rules of ../shared/LANGUAGE.md that can be read off the source's text. */
+/** Those rules of ../shared/LANGUAGE.md that can be read off the source's text; the face, as ../shared/DOC.md tells it. */
 public final class LanguageTest {
+    private static final Path DOCUMENT = Path.of("../shared/DOC.md");
     private static final String[] FACE = {"row", "set", "copy", "drop", "feed", "shop", "fault", "undo", "weeks", "stop",
         "strike", "cross", "dearer", "debtor", "shopHas", "ahead", "debt", "shuts", "bestStop", "whom", "stands", "dear",
         "rogue", "who", "atDoor", "pays", "drawn", "image", "restore", "kind", "as", "ask", "trace", "count", "status"};
@@ -35,6 +36,7 @@ public final class LanguageTest {
         }
         methods(code);
         face();
+        faceTold(source);
         System.out.println(failed == 0 ? "the language's rules are kept" : failed + " rules are not kept");
         System.exit(failed > 0 ? 1 : 0);
     }
@@ -78,6 +80,38 @@ public final class LanguageTest {
         }
         if (!shown.equals(Arrays.asList(FACE))) {
             wrong("the face is " + shown);
+        }
+    }
+
+    /** The public face as the document writes it: each line of it, and the line ahead of each part of the calls. */
+    private static void faceTold(String source) throws IOException {
+        if (!Files.exists(DOCUMENT)) {
+            System.out.println("the document is not there: its face was not looked at");
+            return;
+        }
+        int told = 0;
+        for (String line : Files.readAllLines(DOCUMENT)) {
+            Matcher call = Pattern.compile(" {4}public .*\\)(?=;)").matcher(line);
+            Matcher part = Pattern.compile("Ahead of the calls `(\\w+)`.* the interface says: (---- .*)\\.").matcher(line);
+            if (call.lookingAt()) {
+                stands(source, call.group() + " {", ++told);
+            } else if (part.matches()) {
+                String first = "(?s).*// " + part.group(2) + "\n\n    public int " + part.group(1) + "\\(.*";
+                if (!source.matches(first)) {
+                    wrong("ahead of " + part.group(1) + " does not stand " + part.group(2));
+                }
+            } else if (line.startsWith("    public") || line.startsWith("public")) {
+                stands(source, line, ++told);
+            }
+        }
+        if (told != FACE.length + 3) {
+            wrong("the face that the document tells has " + told + " lines");
+        }
+    }
+
+    private static void stands(String source, String line, int number) {
+        if (!source.contains("\n" + line + "\n")) {
+            wrong("line " + number + " of the document's face does not stand so: " + line);
         }
     }
 
